@@ -587,13 +587,15 @@ public final class SecondPaper {
 
     /** Rows of numbers that read as 0 outside their bounds and take nothing there, so that no index makes the machine throw. */
     static final class Table {
+        private static final int MOST_SIDE = 100;
+
         private final int rows;
         private final int width;
         private final int[] cells;
 
         Table(int rows, int width) {
-            this.rows = Math.min(TAPE_BYTES, Math.max(0, rows));
-            this.width = Math.min(TAPE_BYTES, Math.max(0, width));
+            this.rows = Math.min(MOST_SIDE, Math.max(0, rows));
+            this.width = Math.min(MOST_SIDE, Math.max(0, width));
             this.cells = new int[this.rows * this.width];
         }
 
@@ -992,6 +994,7 @@ public final class SecondPaper {
             return token == WORD && code == codeOf(word) ? take(0) : failAt(FORM, place);
         }
 
+        /** Where there are fewer than four, the others are empty, as no word is. */
         private boolean takeOneOf(String word0, String word1, String word2, String word3) {
             if (token != WORD) {
                 return failAt(FORM, place);
@@ -1596,8 +1599,12 @@ public final class SecondPaper {
         }
 
         int onlyGiverOf(int t) {
-            int bits = giversOf(t);
-            return Integer.bitCount(bits) == 1 ? Integer.numberOfTrailingZeros(bits) : NOBODY;
+            for (int g = 0; g < MOST_GIVERS; g++) {
+                if (giversOf(t) == 1 << g) {
+                    return g;
+                }
+            }
+            return NOBODY;
         }
 
         void find(College college) {
