@@ -57,11 +57,12 @@ public final class AllGivenTest {
     }
 
     private static void leastLastDay() {
-        // Person q would come first for a on day 0, but then b could be given on day 2 only.
+        // With a given to p on day 0, b could be given on day 2 only.
         String text = "college days 3 limit 10;thing a dead weighs 0;thing b dead weighs 9"
-            + ";person p plain room 1 wakes 1;person q plain room 1 wakes 9"
+            + ";person p plain room 1 wakes 1;person q plain room 1 wakes 9;person r plain room 1 wakes 1"
             + ";tram x crowd 0 worth 1;tram y crowd 0 worth 1;giver m skill 0;giver n skill 0";
-        soonest(text + ";takes m x 0;rides p x 0;takes n y 1;rides q y 1;takes m x 2;rides p x 2", 1, 111, 0);
+        soonest(text + ";takes m x 0;rides p x 0;takes n y 1;rides q y 1;takes m x 2;rides r x 2", 1, 111, 0);
+        soonest(text + ";takes m x 0;rides p x 0;takes m x 2;rides r x 2", 2, 0, 202);
         // Of like last days the first things' days, then givers, then persons are the least.
         soonest(text + ";takes m x 0;takes n x 0;rides p x 0;rides q x 0;takes n x 1;rides p x 1", 0, 1, 10);
     }

@@ -39,7 +39,7 @@ public final class WhoGaveTest {
     }
 
     private static void unnoticedOnly() {
-        // m alone can give h, but e and f want him and n on that day: what m gave is sure by the others.
+        // f can be n's alone, as m would be noticed; so n has given on that day already, and e is m's.
         SecondPaper x = CHECK.college(BASE + ";rides p x 0;takes m x 0;takes n x 0;found f p;found e p", 3);
         CHECK.fine(x, "fits()", x.fits(), 1);
         CHECK.fine(x, "surely(0)", x.surely(0), 0);
