@@ -1709,7 +1709,7 @@ public final class SecondPaper {
 
         /** Nobody can gain if the least share that somebody has is no less than the greatest that one more would have. */
         private boolean isRest(int trams) {
-            int least = Integer.MAX_VALUE;
+            int least = SHARED * MOST_GIVERS;
             int greatest = 0;
             for (int tram = 0; tram < trams; tram++) {
                 int people = seated.get(0, tram);
