@@ -443,14 +443,26 @@ final class TextEdges {
 
     private void many() {
         check.term("I", "5 MANY: a LINE more of its sort than there is room for, at its first WORD.");
-        // Other sorts still have room when one is full, and a line that is one too many need not be whole.
-        String full = BASE + joined(named(3, "thing", "egg weighs 0")) + joined(named(4, "person", "plain room 0 wakes 0"))
-            + joined(named(3, "tram", "crowd 0 worth 9")) + joined(named(2, "giver", "skill 0"));
-        check.college(full, 4);
-        check.college(full + joined(repeated(12, "gives m e p 0")) + joined(repeated(8, "exam m e p x free")) + ";rides p x 0;found e p", 4);
-        for (String word : new String[] {"thing", "person", "tram", "giver"}) {
-            check.fault(full + ";" + word, 5, full.length() + 1);
-            check.fault(full + ";" + word + " e", 5, full.length() + 1);
+        // As many of all sorts at once as there is room for.
+        StringBuilder all = new StringBuilder("college days 7 limit 0");
+        for (char name : "abcd".toCharArray()) {
+            all.append(";thing ").append(name).append(" dead weighs 0;tram ").append((char) (name + 4)).append(" crowd 0 worth 1");
+        }
+        for (char name : "ijklm".toCharArray()) {
+            all.append(";person ").append(name).append(" plain room 0 wakes 0");
+        }
+        all.append(";giver x skill 0;giver y skill 0;giver z skill 0").append(joined(days("rides i e ", "takes x e ")));
+        all.append(";rides j e 0;takes y e 0").append(joined(repeated(12, "gives x a i 0"))).append(joined(repeated(8, "exam x a i e free")));
+        all.append(";found a i;found b i;found c i;found d i");
+        SecondPaper x = check.college(all.toString(), 4);
+        int[] due = {7, 0, 4, 5, 4, 3, 16, 12, 4, 8};
+        for (int what = 0; what < due.length; what++) {
+            check.is("size(" + what + ") of all", x.size(what), due[what]);
+        }
+        for (String word : LINE_WORDS) {
+            boolean found = word.equals("found");
+            check.fault(all + ";" + word + " a", word.equals("college") || found ? 3 : 5, all.length() + (found ? 7 : 1));
+            check.fault(all + ";" + word, word.equals("college") ? 3 : found ? 1 : 5, all.length() + (found ? 6 : 1));
         }
     }
 

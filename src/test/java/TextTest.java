@@ -1,4 +1,4 @@
-/** Promises 1 to 5: a new object, feed, college, fault, where. */
+/** Promises 2 to 5: feed, college, fault, where. */
 public final class TextTest {
     private static final Check CHECK = new Check();
     private static final String HEAD = "college days 3 limit 30";
@@ -6,7 +6,6 @@ public final class TextTest {
         + ";tram x crowd 1 worth 1;giver m skill 1";
 
     public static void main(String[] args) {
-        newObject();
         feed();
         collegeOfTape();
         refusedLeavesAll();
@@ -21,55 +20,6 @@ public final class TextTest {
         firstFromTheLeft();
         faultAndWhere();
         CHECK.end();
-    }
-
-    private static void newObject() {
-        SecondPaper x = new SecondPaper();
-        CHECK.is("trouble()", x.trouble(), 0);
-        CHECK.is("fault()", x.fault(), 0);
-        CHECK.is("where()", x.where(), SecondPaper.NONE);
-        for (int what = 0; what <= 13; what++) {
-            CHECK.is("size(" + what + ")", x.size(what), 0);
-        }
-        CHECK.ledThrows(x, 0);
-        CHECK.refused(x, "thing", x.thing(0, 0), 1);
-        CHECK.refused(x, "person", x.person(0, 0), 1);
-        CHECK.refused(x, "giver", x.giver(0, 0), 1);
-        CHECK.refused(x, "rides", x.rides(0, 0), 1);
-        CHECK.refused(x, "takes", x.takes(0, 0), 1);
-        CHECK.refused(x, "meet", x.meet(0, 1), 1);
-        CHECK.refused(x, "near", x.near(0, 0, 0, 0), 1);
-        CHECK.refused(x, "would", x.would(0, 0, 0), 1);
-        CHECK.refused(x, "riders", x.riders(0, 0), 1);
-        CHECK.refused(x, "spare", x.spare(0), 1);
-        CHECK.refused(x, "safest", x.safest(0), 1);
-        CHECK.refused(x, "planned", x.planned(0), 1);
-        CHECK.refused(x, "planHas", x.planHas(0, 0), 1);
-        CHECK.refused(x, "planScore", x.planScore(0, 0), 1);
-        CHECK.refused(x, "first", x.first(), 1);
-        CHECK.refused(x, "judge", x.judge(), 1);
-        CHECK.refused(x, "amiss", x.amiss(), 1);
-        CHECK.refused(x, "soonest", x.soonest(), 1);
-        CHECK.refused(x, "soonestOf", x.soonestOf(0), 1);
-        CHECK.refused(x, "never", x.never(), 1);
-        CHECK.refused(x, "fits", x.fits(), 1);
-        CHECK.refused(x, "could", x.could(0), 1);
-        CHECK.refused(x, "surely", x.surely(0), 1);
-        CHECK.refused(x, "value", x.value(false), 1);
-        CHECK.refused(x, "lot", x.lot(0, false), 1);
-        CHECK.refused(x, "rests", x.rests(9), 1);
-        CHECK.refused(x, "restOf", x.restOf(9, 0), 1);
-        CHECK.refused(x, "limit", x.limit(true), 1);
-        CHECK.refused(x, "dare", x.dare(101), 1);
-        CHECK.refused(x, "honours", x.honours(101, true), 1);
-        CHECK.refused(x, "drawn", x.drawn(-1), 1);
-        CHECK.refused(x, "caught", x.caught(0, -1, 0), 1);
-        CHECK.refused(x, "give", x.give(0, 0, 0), 1);
-        CHECK.refused(x, "day", x.day(), 1);
-        CHECK.refused(x, "sew", x.sew(0), 1);
-        CHECK.refused(x, "undo", x.undo(), 6);
-        CHECK.refused(x, "mark", x.mark(), 1);
-        CHECK.refused(x, "back", x.back(0), 1);
     }
 
     private static void feed() {
